@@ -1,0 +1,126 @@
+/** What the project's tests share: checks that count, and the calls whose refusals they look at. */
+final class Check {
+    private static int passed = 0;
+    private static int failed = 0;
+
+    private Check() {
+    }
+
+    static void equal(String what, long want, long got) {
+        that(what + " answered " + got + ", due is " + want, want == got);
+    }
+
+    static void equal(String what, double want, double got) {
+        that(what + " answered " + got + ", due is " + want, want == got);
+    }
+
+    static void equal(String what, String want, String got) {
+        that(what + " answered \"" + got + "\", due is \"" + want + "\"", want.equals(got));
+    }
+
+    static void that(String what, boolean holds) {
+        if (holds) {
+            passed++;
+        } else {
+            failed++;
+            System.out.println("WRONG: " + what);
+        }
+    }
+
+    static void throwing(String what, Class<? extends RuntimeException> want, Runnable call) {
+        Class<?> got = null;
+        try {
+            call.run();
+        } catch (RuntimeException e) {
+            got = e.getClass();
+        }
+        that(what + " threw " + got + ", due is " + want, got == want);
+    }
+
+    static void outOfBounds(String what, Runnable call) {
+        throwing(what, IndexOutOfBoundsException.class, call);
+    }
+
+    static void badArgument(String what, Runnable call) {
+        throwing(what, IllegalArgumentException.class, call);
+    }
+
+    static void noElement(String what, Runnable call) {
+        throwing(what, java.util.NoSuchElementException.class, call);
+    }
+
+    static void badState(String what, Runnable call) {
+        throwing(what, IllegalStateException.class, call);
+    }
+
+    /** The call is refused for this reason with this detail, and leaves all that can be seen as it was. */
+    static void refused(String what, RainCellar x, int reason, int detail, Runnable call) {
+        String before = seen(x);
+        throwing(what, UnsupportedOperationException.class, call);
+        equal(what + ": state", before, seen(x));
+        equal(what + ": reason", reason, x.reason(0));
+        equal(what + ": detail", detail, x.reason(1));
+    }
+
+    /** All that can be seen of what undo and restore bring back, as one text. */
+    static String seen(RainCellar x) {
+        StringBuilder all = new StringBuilder();
+        for (int what = 0; what <= 9; what++) {
+            all.append(x.account(what)).append(' ');
+        }
+        for (int roof = 0; roof < 4; roof++) {
+            all.append(x.roofOf(roof, 0)).append(' ');
+        }
+        for (int barrel = 0; barrel < x.account(0); barrel++) {
+            all.append('|');
+            for (int what = 0; what <= 6; what++) {
+                all.append(x.barrelOf(barrel, what)).append(' ');
+            }
+        }
+        int storms = x.account(5);
+        for (int storm = Math.max(0, storms - 12); storm < storms; storm++) {
+            all.append('#');
+            for (int what = 0; what <= 2; what++) {
+                all.append(x.stormOf(storm, what)).append(' ');
+            }
+        }
+        for (int barrel = 0; barrel < x.account(0); barrel++) {
+            all.append(x.noticing(barrel)).append(' ');
+        }
+        return all.toString();
+    }
+
+    static String written(RainCellar x, int length) {
+        StringBuilder text = new StringBuilder();
+        for (int k = 0; k < length; k++) {
+            text.append(x.character(k));
+        }
+        return text.toString();
+    }
+
+    static String lineOf(RainCellar x, int barrel) {
+        return written(x, x.line(barrel));
+    }
+
+    static String panelOf(RainCellar x) {
+        return written(x, x.panel());
+    }
+
+    static void append(RainCellar x, String text) {
+        for (int k = 0; k < text.length(); k++) {
+            x.append(text.charAt(k));
+        }
+    }
+
+    static int carryOut(RainCellar x, String text) {
+        append(x, text);
+        return x.commands();
+    }
+
+    static void finish() {
+        System.out.println((failed == 0 ? "all " : "") + passed + " checks hold, " + failed + " do not");
+        if (failed != 0 || passed == 0) {
+            System.exit(1);
+        }
+    }
+}
