@@ -1,0 +1,149 @@
+import java.io.IOException;
+import java.lang.reflect.Constructor;
+import java.lang.reflect.Field;
+import java.lang.reflect.Method;
+import java.lang.reflect.Modifier;
+import java.nio.file.Files;
+import java.nio.file.Path;
+import java.util.Set;
+import java.util.TreeSet;
+import java.util.regex.Matcher;
+import java.util.regex.Pattern;
+
+/** The rules of LANGUAGE.md that can be asked of the source or of the class. */
+public final class LanguageTests {
+    private static final Path SOURCE = Path.of("src/main/java/RainCellar.java");
+    private static final Path DOCUMENT = Path.of("../shared/DOC.md");
+
+    private LanguageTests() {
+    }
+
+    public static void main(String[] args) throws IOException {
+        String source = Files.readString(SOURCE);
+        face(Files.readString(DOCUMENT));
+        hiddenMembers();
+        insideClasses();
+        words(source.replaceAll("(?s)/\\*.*?\\*/|//[^\\n]*", " "));
+        signs(source);
+        Check.finish();
+    }
+
+    /** Rule 1: the face is the document's, to the letter. */
+    private static void face(String document) {
+        Set<String> due = new TreeSet<>();
+        int from = document.indexOf("public final class RainCellar");
+        String block = document.substring(from, document.indexOf("```", from));
+        Matcher m = Pattern.compile("public (\\w+) (\\w+)\\(([^)]*)\\)([^;]*);").matcher(block);
+        while (m.find()) {
+            String types = m.group(3).replaceAll("(\\w+) \\w+", "$1").replace(" ", "");
+            due.add(m.group(1) + " " + m.group(2) + "(" + types + ")" + m.group(4).replace(" ", ""));
+        }
+        Set<String> got = new TreeSet<>();
+        for (Method method : RainCellar.class.getDeclaredMethods()) {
+            if (Modifier.isPublic(method.getModifiers())) {
+                got.add(signature(method));
+            }
+        }
+        Check.equal("how many methods the document has", 39, due.size());
+        Check.equal("the face", due.toString(), got.toString());
+        Constructor<?>[] constructors = RainCellar.class.getDeclaredConstructors();
+        Check.equal("constructors", 1, constructors.length);
+        Check.that("it is public and takes nothing", Modifier.isPublic(constructors[0].getModifiers())
+                && constructors[0].getParameterCount() == 0);
+        Check.that("the class is final", Modifier.isFinal(RainCellar.class.getModifiers()));
+    }
+
+    private static String signature(Method method) {
+        StringBuilder all = new StringBuilder();
+        for (Class<?> type : method.getParameterTypes()) {
+            all.append(all.length() == 0 ? "" : ",").append(type.getSimpleName());
+        }
+        StringBuilder thrown = new StringBuilder();
+        for (Class<?> type : method.getExceptionTypes()) {
+            thrown.append(thrown.length() == 0 ? "throws" : ",").append(type.getSimpleName());
+        }
+        return method.getReturnType().getSimpleName() + " " + method.getName() + "(" + all + ")" + thrown;
+    }
+
+    /** Rule 1: all else is private, and bears no name of the face. Rule 5: static fields are final. */
+    private static void hiddenMembers() {
+        Set<String> face = new TreeSet<>();
+        for (Method method : RainCellar.class.getDeclaredMethods()) {
+            if (Modifier.isPublic(method.getModifiers())) {
+                face.add(method.getName());
+            }
+        }
+        for (Method method : RainCellar.class.getDeclaredMethods()) {
+            if (!Modifier.isPublic(method.getModifiers())) {
+                Check.that(method + " is private", Modifier.isPrivate(method.getModifiers()));
+                Check.that(method + " has a name of its own", !face.contains(method.getName()));
+            }
+        }
+        for (Field field : RainCellar.class.getDeclaredFields()) {
+            Check.that(field + " is private", Modifier.isPrivate(field.getModifiers()));
+            checkField(field);
+        }
+        for (Class<?> inside : RainCellar.class.getDeclaredClasses()) {
+            for (Method method : inside.getDeclaredMethods()) {
+                Check.that(method + " has a name of its own", !face.contains(method.getName()));
+            }
+        }
+    }
+
+    private static void checkField(Field field) {
+        if (Modifier.isStatic(field.getModifiers())) {
+            Check.that(field + " is final", Modifier.isFinal(field.getModifiers()));
+        }
+    }
+
+    /** Rules 2 and 11: few classes inside, each static and not public, none with too many fields. */
+    private static void insideClasses() {
+        Class<?>[] inside = RainCellar.class.getDeclaredClasses();
+        Check.that("classes inside: " + inside.length, inside.length <= 11);
+        for (Class<?> one : inside) {
+            int modifiers = one.getModifiers();
+            Check.that(one + " is static", Modifier.isStatic(modifiers));
+            Check.that(one + " is hidden", !Modifier.isPublic(modifiers) && !Modifier.isProtected(modifiers));
+            int fields = 0;
+            for (Field field : one.getDeclaredFields()) {
+                checkField(field);
+                fields += Modifier.isStatic(field.getModifiers()) ? 0 : 1;
+            }
+            Check.that(one + " has " + fields + " fields", fields <= 20);
+            for (Method method : one.getDeclaredMethods()) {
+                Check.that(method + " takes few", method.getParameterCount() <= 7);
+            }
+        }
+    }
+
+    /** Rules 3, 4, 6, 12 and 13: words that the language has not, and the exceptions that it has. */
+    private static void words(String code) {
+        String[] banned = {"\\bpackage\\b", "->", "::", "\\btry\\b", "\\bcatch\\b", "\\bfinally\\b", "\\bassert\\b",
+            "\\bsynchronized\\b", "\\bprotected\\b", "\\bSystem\\.(?!arraycopy)", "\\bThread\\b", "\\bRandom\\b",
+            "\\bObject\\b", "\\bhashCode\\b", "\\btoString\\b", "\\bvar\\b", "Exact\\b", "\\+ *\"", "\" *\\+",
+            "static \\{", "\\bextends\\b", "\\binterface\\b", "@"};
+        for (String word : banned) {
+            Check.that("no " + word, !Pattern.compile(word).matcher(code).find());
+        }
+        Matcher imports = Pattern.compile("import ([^;]*);").matcher(code);
+        while (imports.find()) {
+            Check.equal("the import", "java.util.NoSuchElementException", imports.group(1));
+        }
+        Matcher thrown = Pattern.compile("\\bthrow\\b([^;]*);").matcher(code);
+        while (thrown.find()) {
+            Check.that("throw" + thrown.group(1), thrown.group(1).matches(" new (IllegalState|IllegalArgument|"
+                    + "IndexOutOfBounds|Arithmetic|UnsupportedOperation|NoSuchElement)Exception\\(\\)"));
+        }
+    }
+
+    private static void signs(String source) {
+        for (int k = 0; k < source.length(); k++) {
+            if (source.charAt(k) > 126) {
+                Check.that("sign " + k + " of the source is beyond 126", false);
+            }
+        }
+        for (String line : source.split("\n")) {
+            Check.that("a long line: " + line, line.length() <= 120);
+        }
+    }
+}
