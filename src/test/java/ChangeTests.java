@@ -114,6 +114,13 @@ public final class ChangeTests {
         Check.refused("takeAway -1", x, 3, 4, () -> x.takeAway(-1));
         Check.refused("takeAway 4", x, 3, 4, () -> x.takeAway(4));
         Check.equal("one away", 3, x.takeAway(1));
+        x.year();
+        x.clear(0);
+        x.clear(2);
+        x.clear(3);
+        x.year();
+        x.year();
+        x.year();
         x.storm(2, 0);
         Check.refused("takeAway of a full one", x, 5, 6, () -> x.takeAway(1));
         x.barrel(1);
@@ -122,6 +129,11 @@ public final class ChangeTests {
         Check.equal("later ones moved down", "2:6#0m3", Check.lineOf(x, 0));
         Check.equal("later ones moved down", "3:8#0m3", Check.lineOf(x, 1));
         Check.equal("later ones moved down", "1:2#0m3", Check.lineOf(x, 2));
+        Check.equal("nothing is counted twice", 16, x.account(1));
+        Check.equal("nor of the storm", 16, x.vintage(0));
+        Check.equal("nor under the roof", 2, x.roofOf(1, 3));
+        x.year();
+        Check.equal("it moved with its year", 1, x.barrelOf(1, 5));
         Check.equal("a new one is empty", "0:0", Check.lineOf(x, x.barrel(0)));
     }
 
@@ -190,6 +202,16 @@ public final class ChangeTests {
         Check.equal("its note", 0, z.note(0));
         z.pour(0, 1, 1);
         Check.equal("hail alone is poured", "0:2#0m3h1", Check.lineOf(z, 1));
+        Check.equal("a litre of it is left", "0:1#0m3h1", Check.lineOf(z, 0));
+        Check.equal("its part", 100, z.barrelOf(0, 6));
+
+        RainCellar a = new RainCellar();
+        a.barrel(1);
+        a.storm(1, 1);
+        a.barrel(0);
+        a.hail(0, 1);
+        a.pour(0, 1, 3);
+        Check.equal("33 of 3 are none, but the rain is 2", "0:3#0m3h1", Check.lineOf(a, 1));
     }
 
     private static void pourIsRefused() {

@@ -117,6 +117,9 @@ public final class KeepingTests {
     }
 
     private static void undone(String what, RainCellar x, Runnable change) {
+        // Forgets what could be undone, so that nothing of an earlier change can pass for this one's.
+        x.save();
+        x.restore();
         String before = Check.seen(x) + Check.panelOf(x);
         int changes = x.account(10);
         change.run();
@@ -124,6 +127,7 @@ public final class KeepingTests {
         Check.equal(what + " can be undone", changes + 1, x.account(10));
         Check.equal(what + " is undone", changes, x.undo());
         Check.equal("as before " + what, before, Check.seen(x) + Check.panelOf(x));
+        Check.that("even after " + what, x.isEven());
     }
 
     private static void onlyChangesAreUndone() {
@@ -197,6 +201,14 @@ public final class KeepingTests {
         }
         x.restore();
         Check.equal("storms as they were saved", saved, Check.seen(x));
+        x.barrel(1);
+        x.storm(4, 0);
+        x.save();
+        for (int k = 0; k < 12; k++) {
+            x.storm(1, 0);
+        }
+        x.restore();
+        Check.equal("and what they brought", 8, x.stormOf(5, 2));
     }
 
     private static void whatStays() {

@@ -92,6 +92,20 @@ public final class QuestionTests {
             x.year();
         }
         Check.equal("noteIn 20", 7, x.noteIn(0, 20));
+
+        RainCellar y = new RainCellar();
+        for (int k = 0; k < 5; k++) {
+            y.year();
+        }
+        y.barrel(0);
+        y.storm(1, 0);
+        for (int years = 0; years < 8; years++) {
+            int note = Math.min(8 + years / 2, 9);
+            Check.equal("a note of 9 at most, after " + years, note, y.note(0));
+            Check.equal("by the second way", note, y.noteAgain(0));
+            Check.equal("and foreseen", 9, y.noteIn(0, 4));
+            y.year();
+        }
     }
 
     private static void notesAreRefused() {
@@ -216,6 +230,10 @@ public final class QuestionTests {
         checkHidden("as much as there is room for, by a weak palate", y, 4);
         y.hail(0, 4);
         checkHidden("a full one", y, 0);
+
+        RainCellar z = adulterated(7, 0);
+        z.sommelier(0, false);
+        checkHidden("7 in 14 is 50", z, 7);
     }
 
     private static void hiddenIsRefused() {
@@ -318,6 +336,12 @@ public final class QuestionTests {
         Check.that("into a full one", !x.canPour(0, 1));
         Check.that("from a full one", x.canPour(1, 0));
         Check.that("into itself", !x.canPour(0, 0));
+        x.pour(1, 0, 14);
+        Check.that("into one litre of room", x.canPour(1, 0));
+        x.pour(1, 0, 1);
+        Check.that("into no room", !x.canPour(1, 0));
+        x.undo();
+        x.undo();
         x.barrel(0);
         Check.that("into an empty one", x.canPour(0, 2));
         x.storm(1, 0);

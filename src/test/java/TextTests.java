@@ -109,6 +109,7 @@ public final class TextTests {
         fault("y;b1;m", 6);
         fault("b\u0661", 1);
         fault("y;y;y;y;y;y;y;y;y;y;y;y;y;y;y;y;y;y;y;y;y;y;y;y;y;y;y;y;y;y;", 60);
+        afterALongerOne();
     }
 
     private static void fault(String text, int due) {
@@ -116,6 +117,19 @@ public final class TextTests {
         Check.badArgument("text " + text, () -> Check.carryOut(x, text));
         Check.equal("fault position of " + text, due, x.faultPosition());
         Check.equal("buffer after " + text, 0, x.account(11));
+    }
+
+    /** What an earlier text left behind the end of a shorter one is no part of it. */
+    private static void afterALongerOne() {
+        RainCellar x = new RainCellar();
+        String[] shorter = {"b3;b", "b3;", "b", "s5*", "s5", "s", ""};
+        for (String text : shorter) {
+            Check.carryOut(x, text.startsWith("b") ? "b3;b0;x0" : "s5*2;y;y");
+            Check.badArgument("shorter text " + text, () -> Check.carryOut(x, text));
+            Check.equal("fault position of it", text.length(), x.faultPosition());
+        }
+        Check.carryOut(x, "y;y;y");
+        Check.equal("one command alone", 1, Check.carryOut(x, "y"));
     }
 
     private static void faultsChangeNothing() {
