@@ -159,6 +159,15 @@ public final class ChangeTests {
         Check.equal("poured together", 6, y.pour(0, 1, 2));
         Check.equal("the moss of the other one stays", "3:6#0m0", Check.lineOf(y, 1));
         Check.equal("and that of the one", "2:1#0m3", Check.lineOf(y, 0));
+
+        RainCellar z = new RainCellar();
+        z.year();
+        z.barrel(0);
+        z.storm(1, 0);
+        z.year();
+        z.barrel(0);
+        z.pour(0, 1, 1);
+        Check.equal("the age is that of the storm", 1, z.barrelOf(1, 5));
     }
 
     private static void pourMovesHailByThePart() {

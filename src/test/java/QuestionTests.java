@@ -344,6 +344,9 @@ public final class QuestionTests {
         x.undo();
         x.barrel(0);
         Check.that("into an empty one", x.canPour(0, 2));
+        x.pour(0, 2, 1);
+        Check.that("a litre alone", x.canPour(2, 0));
+        x.undo();
         x.storm(1, 0);
         Check.that("unlike storms", !x.canPour(0, 2));
         Check.that("unlike storms, the other way", !x.canPour(2, 0));
@@ -376,6 +379,20 @@ public final class QuestionTests {
         checkOrder("parts 0 20 25 0 0", x, 3, 2, 1, 0, 3, 4);
         Check.noElement("place 5", () -> x.ranked(0, 5));
         Check.noElement("place -1", () -> x.ranked(3, -1));
+
+        RainCellar y = new RainCellar();
+        y.barrel(0);
+        y.barrel(1);
+        y.barrel(2);
+        y.clear(1);
+        y.storm(1, 1);
+        y.sommelier(0, false);
+        y.drink(0);
+        y.hail(2, 1);
+        y.takeAway(0);
+        checkOrder("without the one taken away", y, 0, 1, 0);
+        Check.equal("the mean without it", 1.0, y.meanNote());
+        Check.equal("the share without it", 1.0f / 6.0f, y.hailShare());
     }
 
     private static void checkOrder(String what, RainCellar x, int measure, int... due) {
