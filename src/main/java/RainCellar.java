@@ -250,7 +250,7 @@ public final class RainCellar {
 
     public int commands() throws IllegalArgumentException, UnsupportedOperationException {
         fault = text.read();
-        text.length = 0;
+        text.makeEmpty();
         if (fault != NO_FAULT) {
             throw new IllegalArgumentException();
         }
@@ -373,7 +373,7 @@ public final class RainCellar {
             throw new IllegalStateException();
         }
         now.copy(saved);
-        history.size = 0;
+        history.forget();
         return now.barrelCount;
     }
 
@@ -1022,6 +1022,10 @@ public final class RainCellar {
             size--;
             return aside();
         }
+
+        void forget() {
+            size = 0;
+        }
     }
 
     /** The text buffer, and the commands that were read from it. */
@@ -1037,6 +1041,11 @@ public final class RainCellar {
         void add(char sign) {
             signs[length] = sign;
             length++;
+        }
+
+        /** The commands that were read stay until the next text is read. */
+        void makeEmpty() {
+            length = 0;
         }
 
         int numberOf(int command, int which) {
