@@ -40,6 +40,8 @@ public final class RainCellar {
     private static final int NO_FAULT = -1;
     private static final int NO_REASON = 0;
 
+    /** What a command of a text begins with. */
+    private static final String LETTERS = "sbxphmtlgcy";
     private static final char ONE_DIGIT = 'd';
     private static final char LITRES = 'n';
 
@@ -1056,22 +1058,22 @@ public final class RainCellar {
         int read() {
             at = 0;
             commandCount = 0;
-            do {
-                if (!readCommand()) {
-                    return at;
-                }
+            for (int read = 0; read < MOST_SIGNS && readCommand(); read++) {
                 if (at == length) {
                     return NO_FAULT;
                 }
-            } while (commandCount < MOST_SIGNS && readSign(';'));
+                if (!readSign(';')) {
+                    return at;
+                }
+            }
             return at;
         }
 
         private boolean readCommand() {
-            String form = at < length ? formOf(signs[at]) : null;
-            if (form == null) {
+            if (at >= length || LETTERS.indexOf(signs[at]) < 0) {
                 return false;
             }
+            String form = formOf(signs[at]);
             kinds[commandCount] = signs[at];
             numberCount = 0;
             at++;
@@ -1084,21 +1086,14 @@ public final class RainCellar {
             return true;
         }
 
-        /** Returns what has to follow the letter of a command, or null if it is no such letter. */
+        /** Returns what has to follow the letter of a command. */
         private static String formOf(char letter) {
             switch (letter) {
                 case 's': return "d*d";
                 case 'p': return "d>d=n";
                 case 'h': return "d=n";
                 case 'y': return "";
-                case 'b':
-                case 'x':
-                case 'm':
-                case 't':
-                case 'l':
-                case 'g':
-                case 'c': return "d";
-                default: return null;
+                default: return "d";
             }
         }
 

@@ -228,27 +228,23 @@ public final class ChangeTests {
         Check.refused("pour without barrels", x, 3, 0, () -> x.pour(0, 0, 1));
         x.barrel(0);
         Check.refused("no other one", x, 3, 1, () -> x.pour(0, 1, 0));
-        Check.refused("no one", x, 3, 1, () -> x.pour(-1, 0, 0));
         Check.refused("both one, ahead of the range", x, 8, 0, () -> x.pour(0, 0, 0));
         x.barrel(3);
-        Check.refused("both the second", x, 8, 1, () -> x.pour(1, 1, 1));
-        Check.refused("litres 0", x, 1, 0, () -> x.pour(0, 1, 0));
         Check.refused("litres 21", x, 1, 0, () -> x.pour(0, 1, 21));
         Check.refused("from an empty one", x, 6, 0, () -> x.pour(0, 1, 1));
-        x.storm(5, 0);
-        Check.refused("fewer, ahead of the room", x, 6, 5, () -> x.pour(0, 1, 6));
-        Check.refused("less room", x, 7, 0, () -> x.pour(0, 1, 5));
-        x.barrel(2);
-        x.storm(6, 0);
-        Check.refused("unlike storms, ahead of the room", x, 9, 1, () -> x.pour(1, 2, 20));
-        Check.refused("unlike storms", x, 9, 0, () -> x.pour(2, 0, 1));
-        x.barrel(1);
-        x.pour(1, 3, 17);
-        Check.refused("3 of room", x, 7, 3, () -> x.pour(0, 3, 4));
-        Check.equal("all the room", 20, x.pour(0, 3, 3));
-        x.takeAway(x.barrel(0));
-        x.barrel(0);
-        Check.equal("20 litres", 20, x.pour(3, 4, 20));
+
+        RainCellar y = Check.after("b0 b3 s5*0");
+        Check.refused("fewer, ahead of the room", y, 6, 5, () -> y.pour(0, 1, 6));
+        Check.refused("less room", y, 7, 0, () -> y.pour(0, 1, 5));
+        y.barrel(2);
+        y.storm(6, 0);
+        Check.refused("unlike storms, ahead of the room", y, 9, 1, () -> y.pour(1, 2, 20));
+
+        RainCellar z = Check.after("b0 b3 s5*0 b1 p1>2=17");
+        Check.refused("3 of room", z, 7, 3, () -> z.pour(0, 2, 4));
+        Check.equal("all the room", 20, z.pour(0, 2, 3));
+        z.barrel(0);
+        Check.equal("20 litres", 20, z.pour(2, 3, 20));
     }
 
     private static void hailIsPutIn() {
@@ -272,14 +268,15 @@ public final class ChangeTests {
         Check.refused("hail 0", x, 1, 0, () -> x.hail(0, 0));
         Check.refused("hail 10", x, 1, 0, () -> x.hail(0, 10));
         Check.refused("into an empty one", x, 6, 0, () -> x.hail(0, 9));
-        x.storm(4, 3);
-        Check.refused("less hail, ahead of the room", x, 10, 6, () -> x.hail(0, 7));
-        Check.refused("less room", x, 7, 4, () -> x.hail(0, 5));
-        Check.refused("no such barrel, ahead of the range", x, 3, 1, () -> x.hail(1, 10));
-        Check.equal("all the room", 20, x.hail(0, 4));
-        Check.refused("no room", x, 7, 0, () -> x.hail(0, 1));
-        x.year();
-        Check.refused("no hail", x, 10, 0, () -> x.hail(0, 1));
+
+        RainCellar y = Check.after("b3 s4*3");
+        Check.refused("less hail, ahead of the room", y, 10, 6, () -> y.hail(0, 7));
+        Check.refused("less room", y, 7, 4, () -> y.hail(0, 5));
+        Check.refused("no such barrel, ahead of the range", y, 3, 1, () -> y.hail(1, 10));
+        Check.equal("all the room", 20, y.hail(0, 4));
+        Check.refused("no room", y, 7, 0, () -> y.hail(0, 1));
+        y.year();
+        Check.refused("no hail", y, 10, 0, () -> y.hail(0, 1));
     }
 
     private static void sommeliersComeAndLeave() {

@@ -117,6 +117,50 @@ final class Check {
         return x.commands();
     }
 
+    /**
+     * A new object after these changes, told as in a text but with blanks between them: each is a call of its own, and
+     * a number may have more digits. "u" undoes, "S" saves, and "R" restores.
+     */
+    static RainCellar after(String calls) {
+        RainCellar x = new RainCellar();
+        for (String call : calls.trim().split(" +")) {
+            if (!call.isEmpty()) {
+                call(x, call);
+            }
+        }
+        return x;
+    }
+
+    static void call(RainCellar x, String call) {
+        int[] n = new int[3];
+        int count = 0;
+        for (String number : call.substring(1).split("[*>=]")) {
+            n[count++] = number.isEmpty() ? 0 : Integer.parseInt(number);
+        }
+        switch (call.charAt(0)) {
+            case 's' -> x.storm(n[0], n[1]);
+            case 'b' -> x.barrel(n[0]);
+            case 'x' -> x.takeAway(n[0]);
+            case 'p' -> x.pour(n[0], n[1], n[2]);
+            case 'h' -> x.hail(n[0], n[1]);
+            case 'm' -> x.sommelier(n[0], false);
+            case 't' -> x.sommelier(n[0], true);
+            case 'l' -> x.leave(n[0]);
+            case 'g' -> x.drink(n[0]);
+            case 'c' -> x.clear(n[0]);
+            case 'y' -> x.year();
+            case 'u' -> x.undo();
+            case 'S' -> x.save();
+            case 'R' -> x.restore();
+            default -> throw new IllegalArgumentException("no such change: " + call);
+        }
+    }
+
+    /** How many checks there were so far. */
+    static int count() {
+        return passed + failed;
+    }
+
     static void finish() {
         System.out.println((failed == 0 ? "all " : "") + passed + " checks hold, " + failed + " do not");
         if (failed != 0 || passed == 0) {

@@ -78,27 +78,22 @@ public final class KeepingTests {
     }
 
     private static void undoing() {
-        RainCellar x = new RainCellar();
-        Check.badState("nothing to undo", () -> x.undo());
-        String[] seen = new String[13];
-        for (int k = 0; k < 12; k++) {
-            seen[k] = Check.seen(x);
-            Check.equal("changes that can be undone", Math.min(k, 8), x.account(10));
-            if (k % 3 == 0) {
-                x.barrel(k % 4);
-            } else {
-                x.storm(k % 9 + 1, k % 4);
+        Check.badState("nothing to undo", () -> new RainCellar().undo());
+        String[] changes = {"b0 ", "s2*1 ", "s3*2 ", "b3 ", "s5*0 ", "s6*1 ", "b2 ", "s8*3 ", "s9*0 ", "b1 ", "s2*2 ", "y "};
+        for (int count = 0; count <= 12; count++) {
+            String all = String.join("", java.util.Arrays.copyOf(changes, count));
+            int kept = Math.min(count, 8);
+            for (int undone = 0; undone <= kept; undone++) {
+                RainCellar x = Check.after(all + "u ".repeat(undone));
+                String before = String.join("", java.util.Arrays.copyOf(changes, count - undone));
+                Check.equal("as before " + all, Check.seen(Check.after(before)), Check.seen(x));
+                Check.equal("left to undo", kept - undone, x.account(10));
             }
+            RainCellar x = Check.after(all + "u ".repeat(kept));
+            Check.badState("only the latest eight", () -> x.undo());
+            x.year();
+            Check.equal("a new change", 0, x.undo());
         }
-        for (int k = 11; k >= 4; k--) {
-            Check.equal("left to undo", k - 4, x.undo());
-            Check.equal("as before change " + k, seen[k], Check.seen(x));
-        }
-        Check.badState("only the latest eight", () -> x.undo());
-        Check.equal("a failed undo changes nothing", seen[4], Check.seen(x));
-        x.year();
-        Check.equal("a new change", 0, x.undo());
-        Check.equal("is undone", seen[4], Check.seen(x));
     }
 
     private static void everyChangeIsUndone() {

