@@ -2,8 +2,26 @@
 final class Check {
     private static int passed = 0;
     private static int failed = 0;
+    private static final long MOST_SECONDS = 300;
+
+    static {
+        // A call that never ends would otherwise hold up all that comes behind it.
+        Thread watch = new Thread(Check::stopLate);
+        watch.setDaemon(true);
+        watch.start();
+    }
 
     private Check() {
+    }
+
+    private static void stopLate() {
+        try {
+            Thread.sleep(1000 * MOST_SECONDS);
+        } catch (InterruptedException e) {
+            return;
+        }
+        System.out.println("WRONG: the test does not end");
+        Runtime.getRuntime().halt(1);
     }
 
     static void equal(String what, long want, long got) {

@@ -679,10 +679,8 @@ final class RuleSentences extends Sentences {
             badArgument(calls, x -> x.account(12));
             badState("b0 s1*0 S R", RainCellar::undo);
             badState("b0 s1*0", RainCellar::restore);
-            refused(calls, 1, 0, x -> x.storm(1, 4));
-            refused(calls, 3, 4, x -> x.pour(0, 4, 1));
-            refused(calls, 7, 16, x -> x.pour(0, 1, 17));
-            afterAllRefusals();
+            allRefusals();
+            afterRefusals();
         });
         says("If several conditions of a method are fulfilled, the one that is listed first determines the exception.",
                 () -> {
@@ -702,8 +700,40 @@ final class RuleSentences extends Sentences {
         });
     }
 
+    /** Each reason of each method, in a cellar in which there is something of all that could be lost. */
+    private static void allRefusals() {
+        String calls = "y b3 b3 b1 s6*1 b0 s1*3 b2 b2 b2 b2 m1 t7 m2 t3 h2=2 c1 S R p0>4=3 h3=1 ";
+        refused(calls, 1, 0, x -> x.storm(0, 0));
+        refused(calls, 1, 0, x -> x.storm(1, 4));
+        refused(calls, 1, 0, x -> x.barrel(4));
+        refused(calls, 2, 8, x -> x.barrel(0));
+        refused(calls, 3, 8, x -> x.takeAway(8));
+        refused(calls, 5, 17, x -> x.takeAway(0));
+        refused(calls, 3, 8, x -> x.pour(8, 0, 1));
+        refused(calls, 3, 8, x -> x.pour(0, 8, 1));
+        refused(calls, 8, 1, x -> x.pour(1, 1, 1));
+        refused(calls, 1, 0, x -> x.pour(0, 1, 0));
+        refused(calls, 6, 4, x -> x.pour(1, 4, 5));
+        refused(calls, 9, 1, x -> x.pour(0, 3, 1));
+        refused(calls, 7, 16, x -> x.pour(0, 1, 17));
+        refused(calls, 3, 8, x -> x.hail(8, 1));
+        refused(calls, 1, 0, x -> x.hail(0, 10));
+        refused(calls, 6, 0, x -> x.hail(5, 1));
+        refused(calls, 10, 5, x -> x.hail(2, 6));
+        refused(calls, 7, 3, x -> x.hail(0, 4));
+        refused(calls, 1, 0, x -> x.sommelier(10, true));
+        refused(calls, 2, 4, x -> x.sommelier(0, false));
+        refused(calls, 4, 4, x -> x.leave(4));
+        refused(calls, 3, 8, x -> x.drink(8));
+        refused(calls, 6, 2, x -> x.drink(3));
+        refused(calls.replaceAll("[mt]\\d ", ""), 11, 0, x -> x.drink(2));
+        refused(calls, 1, 0, x -> x.clear(4));
+        refused(calls, 12, 1, x -> x.clear(1));
+        refusedText(calls, "y;c1;x7;g2;b3;b3", 2, 8, 5);
+    }
+
     /** The line stays, too. */
-    private static void afterAllRefusals() {
+    private static void afterRefusals() {
         RainCellar x = after("b3 s5*0");
         int length = x.line(0);
         isSo("refused", !thrown(x, y -> y.takeAway(0)).equals("nothing"));
