@@ -5,7 +5,9 @@ import java.lang.reflect.Method;
 import java.lang.reflect.Modifier;
 import java.nio.file.Files;
 import java.nio.file.Path;
+import java.util.Map;
 import java.util.Set;
+import java.util.TreeMap;
 import java.util.TreeSet;
 import java.util.regex.Matcher;
 import java.util.regex.Pattern;
@@ -26,7 +28,9 @@ public final class LanguageTests {
         face(Files.readString(DOCUMENT));
         hiddenMembers();
         insideClasses();
-        words(source.replaceAll("(?s)/\\*.*?\\*/|//[^\\n]*", " "));
+        String code = source.replaceAll("(?s)/\\*.*?\\*/|//[^\\n]*", " ");
+        words(code);
+        shortMethods(code);
         signs(source);
         Check.finish();
     }
@@ -143,6 +147,47 @@ public final class LanguageTests {
         while (caught.find()) {
             Check.that("catch " + caught.group(1), caught.group(1).matches(EXCEPTION + "( *\\| *" + EXCEPTION + ")* \\w+"));
         }
+    }
+
+    /** Rule 11: methods stay short, and calls go at most eight deep. Methods of one name count as one. */
+    private static void shortMethods(String code) {
+        Map<String, String> bodies = new TreeMap<>();
+        Matcher head = Pattern.compile("[\\w\\]] (\\w+)\\([^()]*\\)(\\s+throws [\\w, ]+)? \\{").matcher(code);
+        while (head.find()) {
+            if (!head.group(1).matches("if|for|while|switch")) {
+                String body = code.substring(head.end(), closing(code, head.end()));
+                Check.that(head.group(1) + " stays short", body.split("\n").length <= 60);
+                bodies.merge(head.group(1), body, String::concat);
+            }
+        }
+        Check.that("the methods are found", bodies.size() > 39);
+        for (String name : bodies.keySet()) {
+            int depth = depthOf(name, bodies, 1);
+            Check.that(name + " goes " + depth + " deep", depth <= 8);
+        }
+    }
+
+    /** Returns the place of the brace that closes what is open at this one. */
+    private static int closing(String code, int from) {
+        int open = 1;
+        int at = from;
+        for (; at < code.length() && open > 0; at++) {
+            open += code.charAt(at) == '{' ? 1 : code.charAt(at) == '}' ? -1 : 0;
+        }
+        return at;
+    }
+
+    private static int depthOf(String name, Map<String, String> bodies, int depth) {
+        int deepest = depth;
+        Matcher call = Pattern.compile("\\b(\\w+)\\(").matcher(bodies.get(name));
+        while (depth < 20 && call.find()) {
+            String called = call.group(1);
+            if (bodies.containsKey(called)) {
+                boolean isSelf = called.equals(name);
+                deepest = Math.max(deepest, isSelf ? depth + 1 : depthOf(called, bodies, depth + 1));
+            }
+        }
+        return deepest;
     }
 
     private static void signs(String source) {
